@@ -15,8 +15,10 @@ public final class RoundRules {
     private static final int NULL = 1, CAST = 2, INDEX = 3, SIZE = 4;
     private static final int SHEETS = 4, LANES = 3, CELLS = 60;
     private static final int THINGS = 4, TWOS = 16, RELATIONS = 4, RULES = 5, FACTS = 64;
-    private static final int PLAIN = 0, BULKY = 1, DOUBLE = 2, KINDS = 3;
-    private static final int AS_IS = 0, TURNED = 1, JOINED = 2, BUT_NOT = 3, FORMS = 4;
+    /** How many facts a text may tell; calls may tell more. */
+    private static final int MOST_TOLD = 5;
+    private static final int BULKY = 1, DOUBLE = 2, KINDS = 3;
+    private static final int TURNED = 1, JOINED = 2, BUT_NOT = 3, FORMS = 4;
     private static final int READINGS = 8, MOST_READ = 1000;
     private static final int ACTS = 20, FORM_ACT = 10, OF_RELATION = 10;
 
@@ -276,7 +278,7 @@ public final class RoundRules {
             return STATE;
         }
         now.settle();
-        return k < now.costs.ordered ? now.costs.order[k] : NONE;
+        return now.costs.settledFact(k);
     }
 
     public int demands(int q, int x) {
@@ -326,7 +328,9 @@ public final class RoundRules {
         for (int kind = 0; kind < KINDS; kind++) {
             draft.take(now.program);
             draft.program.kindOf[r] = kind;
-            draft.settle();
+            if (readingCount > 0) {
+                draft.settle();
+            }
             if (areReadingsSo()) {
                 set |= 1 << kind;
             }
@@ -341,16 +345,20 @@ public final class RoundRules {
         int set = 0;
         for (int form = 0; form < FORMS; form++) {
             draft.take(now.program);
-            if (draft.program.fits(r, form) && draft.reforms(r, form)) {
+            if (!draft.program.fits(r, form) || !draft.reforms(r, form)) {
+                continue;
+            }
+            if (readingCount > 0) {
                 draft.settle();
-                if (areReadingsSo()) {
-                    set |= 1 << form;
-                }
+            }
+            if (areReadingsSo()) {
+                set |= 1 << form;
             }
         }
         return set;
     }
 
+    /** Of the draft, which is settled if there are any readings. */
     private boolean areReadingsSo() {
         for (int k = 0; k < readingCount; k++) {
             if (draft.costs.cheapOf(readFact[k]) != readCheap[k]) {
@@ -557,7 +565,7 @@ public final class RoundRules {
     }
 
     private static int turnedAbout(int two) {
-        return (two & 3) << 2 | two >> 2;
+        return two % THINGS * THINGS + two / THINGS;
     }
 
     /** The things y of all (x, y) in a set of twos, as bits. */
@@ -687,15 +695,14 @@ public final class RoundRules {
 
     /** Reads a text into a program; at what is wrong it stays for good, so that place is the first fault. */
     private static final class TextReader {
-        Sheet row;
-        int from;
+        final int[] codes = new int[CELLS];
         int count;
         int at;
         boolean isWrong;
 
-        boolean reads(Sheet source, int i, int n, Program p) {
-            row = source;
-            from = i;
+        /** The row has these cells. */
+        boolean reads(Sheet row, int i, int n, Program p) {
+            System.arraycopy(row.cells, i, codes, 0, n);
             count = n;
             at = 0;
             isWrong = false;
@@ -705,7 +712,7 @@ public final class RoundRules {
             for (int k = 0; k < RULES && isNext(';'); k++) {
                 readRule(p);
             }
-            for (int k = 0; k < 5 && isNext(','); k++) {
+            for (int k = 0; k < MOST_TOLD && isNext(','); k++) {
                 readTold(p);
             }
             return !isWrong && at == count;
@@ -741,7 +748,7 @@ public final class RoundRules {
         }
 
         private boolean isNext(char sign) {
-            return !isWrong && at < count && row.cells[from + at] == sign;
+            return !isWrong && at < count && codes[at] == sign;
         }
 
         /** Which of some signs comes next. */
@@ -757,7 +764,7 @@ public final class RoundRules {
         }
 
         private int digit(int least, int most) {
-            int value = isWrong || at >= count ? -1 : row.cells[from + at] - '0';
+            int value = isWrong || at >= count ? -1 : codes[at] - '0';
             if (value < least || value > most) {
                 isWrong = true;
                 return 0;
@@ -962,7 +969,7 @@ public final class RoundRules {
 
     /** How little each fact costs, by which rule, and in which order facts are settled. */
     private static final class Costs {
-        /** Above all that a fact can cost, and small enough that two of it are an int. */
+        /** Far above all that a fact can cost (some thousands), and small enough that two and a rule are an int. */
         static final int FAR = 1 << 29;
 
         final Program program;
@@ -971,6 +978,7 @@ public final class RoundRules {
         final int[] cheap = new int[FACTS];
         final int[] order = new int[FACTS];
         int ordered;
+        boolean isInOrder;
 
         Costs(Program p, Layers l, Rounds known) {
             program = p;
@@ -987,7 +995,7 @@ public final class RoundRules {
             for (int pass = 0; pass <= FACTS && better; pass++) {
                 better = isCheapened();
             }
-            putInOrder();
+            isInOrder = false;
         }
 
         private boolean isCheapened() {
@@ -1006,27 +1014,28 @@ public final class RoundRules {
             return better;
         }
 
-        /** What HEAD of a two costs by a rule; FAR, if it does not follow by it. */
+        /** What HEAD of a two costs by a rule; FAR or above, if it does not follow by it. */
         private int wayBy(int r, int two) {
             int form = program.formOf[r];
             if (form == JOINED) {
                 int least = FAR;
                 for (int z = 0; z < THINGS; z++) {
-                    least = Math.min(least, wayThrough(r, two, z));
+                    least = Math.min(least, partsThrough(r, two, z));
                 }
-                return least;
+                return program.cost(r) + least;
             }
             if (form == BUT_NOT && rounds.isHeld(TWOS * program.otherOf[r] + two)) {
                 return FAR;
             }
             int from = form == TURNED ? turnedAbout(two) : two;
-            return Math.min(FAR, program.cost(r) + cheap[TWOS * program.bodyOf[r] + from]);
+            return program.cost(r) + cheap[TWOS * program.bodyOf[r] + from];
         }
 
-        private int wayThrough(int r, int two, int z) {
-            int body = cheap[factOf(program.bodyOf[r], two / THINGS, z)];
-            int other = cheap[factOf(program.otherOf[r], z, two % THINGS)];
-            return Math.min(FAR, program.cost(r) + body + other);
+        /** What BODY (x, z) and OTHER (z, y) of a two (x, y) cost together. */
+        private int partsThrough(int r, int two, int z) {
+            int body = TWOS * program.bodyOf[r] + two / THINGS * THINGS + z;
+            int other = TWOS * program.otherOf[r] + THINGS * z + two % THINGS;
+            return cheap[body] + cheap[other];
         }
 
         int cheapOf(int fact) {
@@ -1050,8 +1059,9 @@ public final class RoundRules {
             if (last == NONE || program.formOf[last] != JOINED) {
                 return NONE;
             }
+            int parts = cheap[fact] - program.cost(last);
             for (int z = 0; z < THINGS; z++) {
-                if (wayThrough(last, fact % TWOS, z) == cheap[fact]) {
+                if (partsThrough(last, fact % TWOS, z) == parts) {
                     return z;
                 }
             }
@@ -1069,6 +1079,10 @@ public final class RoundRules {
         }
 
         private void putInOrder() {
+            if (isInOrder) {
+                return;
+            }
+            isInOrder = true;
             ordered = 0;
             for (int fact = 0; fact < FACTS; fact++) {
                 if (rounds.isHeld(fact)) {
@@ -1089,8 +1103,14 @@ public final class RoundRules {
             return mine < its || mine == its && cheap[fact] < cheap[than];
         }
 
+        int settledFact(int k) {
+            putInOrder();
+            return k < ordered ? order[k] : NONE;
+        }
+
         /** All facts of a relation are of one layer, so the order of all is theirs too. */
         int rankedFact(int q, int k) {
+            putInOrder();
             int before = 0;
             for (int at = 0; at < ordered; at++) {
                 if (order[at] / TWOS == q) {
@@ -1106,11 +1126,21 @@ public final class RoundRules {
 
     /** A program with all that follows from it, found when it is first asked for. */
     private static final class World {
-        final Program program = new Program();
-        final Layers layers = new Layers(program);
-        final Rounds rounds = new Rounds(program, layers);
-        final Costs costs = new Costs(program, layers, rounds);
+        final Program program;
+        final Layers layers;
+        final Rounds rounds;
+        final Costs costs;
         boolean isSettled;
+
+        World() {
+            Program p = new Program();
+            Layers l = new Layers(p);
+            Rounds known = new Rounds(p, l);
+            costs = new Costs(p, l, known);
+            rounds = known;
+            layers = l;
+            program = p;
+        }
 
         void take(Program p) {
             program.take(p);
