@@ -196,6 +196,8 @@ public final class SheetsTest {
             trace = traceOf(trace, 3, 2, 1, 1);
             check.due("trace that wraps", x.trace(), trace);
         }
+        Check.program(x, "d1");
+        check.due("trace goes on past a new text", x.trace(), trace);
     }
 
     private static void fault() {
