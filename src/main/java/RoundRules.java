@@ -969,7 +969,7 @@ public final class RoundRules {
 
     /** How little each fact costs, by which rule, and in which order facts are settled. */
     private static final class Costs {
-        /** Far above all that a fact can cost (thousands at most), and small enough that two and a rule are an int. */
+        /** Far above what a fact costs (a search found 2,322 at most); two of it and a rule's are still an int. */
         static final int FAR = 1 << 29;
 
         final Program program;
