@@ -969,13 +969,17 @@ public final class RoundRules {
 
     /** How little each fact costs, by which rule, and in which order facts are settled. */
     private static final class Costs {
-        /** Far above what a fact costs (a search found 2,322 at most); two of it and a rule's are still an int. */
-        static final int FAR = 1 << 29;
+        /**
+         * Above what any fact costs, and two of it and a rule's are still a long. In the order of their costs a
+         * fact is at most 18 above the two ahead of it together, or (joined of one fact twice, which only sixteen
+         * facts (x, x) can be) above twice the one ahead: 64 facts stay below 2 to the 55th.
+         */
+        static final long FAR = 1L << 60;
 
         final Program program;
         final Layers layers;
         final Rounds rounds;
-        final int[] cheap = new int[FACTS];
+        final long[] cheap = new long[FACTS];
         final int[] order = new int[FACTS];
         int ordered;
         boolean isInOrder;
@@ -1004,7 +1008,7 @@ public final class RoundRules {
                 int head = program.headOf[r];
                 int open = rounds.holds[head] & ~program.told[head];
                 for (int two = 0; two < TWOS; two++) {
-                    int way = (open >> two & 1) == 0 ? FAR : wayBy(r, two);
+                    long way = (open >> two & 1) == 0 ? FAR : wayBy(r, two);
                     if (way < cheap[TWOS * head + two]) {
                         cheap[TWOS * head + two] = way;
                         better = true;
@@ -1015,10 +1019,10 @@ public final class RoundRules {
         }
 
         /** What HEAD of a two costs by a rule; FAR or above, if it does not follow by it. */
-        private int wayBy(int r, int two) {
+        private long wayBy(int r, int two) {
             int form = program.formOf[r];
             if (form == JOINED) {
-                int least = FAR;
+                long least = FAR;
                 for (int z = 0; z < THINGS; z++) {
                     least = Math.min(least, partsThrough(r, two, z));
                 }
@@ -1032,14 +1036,14 @@ public final class RoundRules {
         }
 
         /** What BODY (x, z) and OTHER (z, y) of a two (x, y) cost together. */
-        private int partsThrough(int r, int two, int z) {
+        private long partsThrough(int r, int two, int z) {
             int body = TWOS * program.bodyOf[r] + two / THINGS * THINGS + z;
             int other = TWOS * program.otherOf[r] + THINGS * z + two % THINGS;
             return cheap[body] + cheap[other];
         }
 
         int cheapOf(int fact) {
-            return rounds.isHeld(fact) ? cheap[fact] : NONE;
+            return rounds.isHeld(fact) ? (int) cheap[fact] : NONE;
         }
 
         int lastRule(int fact) {
@@ -1059,7 +1063,7 @@ public final class RoundRules {
             if (last == NONE || program.formOf[last] != JOINED) {
                 return NONE;
             }
-            int parts = cheap[fact] - program.cost(last);
+            long parts = cheap[fact] - program.cost(last);
             for (int z = 0; z < THINGS; z++) {
                 if (partsThrough(last, fact % TWOS, z) == parts) {
                     return z;
@@ -1069,13 +1073,13 @@ public final class RoundRules {
         }
 
         int greatest() {
-            int most = 0;
+            long most = 0;
             for (int fact = 0; fact < FACTS; fact++) {
                 if (rounds.isHeld(fact)) {
                     most = Math.max(most, cheap[fact]);
                 }
             }
-            return most;
+            return (int) most;
         }
 
         private void putInOrder() {

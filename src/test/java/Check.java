@@ -1,9 +1,13 @@
+import java.nio.file.Path;
+
 /** Counts and prints answers that are not the ones that are due. */
 final class Check {
     static final String EXAMPLE = "d3;p2c10;b3j110;w1n201;p4t11,001,012,023,033";
     static final String PATHS = "d2;p1c10;p1j110,001,012,023";
 
     private final String name;
+    private final Document document = new Document(Path.of("../shared/DOC.md"));
+    private String said = "";
     private int seen;
     private int wrong;
 
@@ -11,11 +15,26 @@ final class Check {
         this.name = name;
     }
 
+    /** The words of the document (of a promise; 0: of the Terms) by which the answers that come now are due. */
+    void says(int promise, String words) {
+        said = " [" + promise + ": " + words + "]";
+        if (document.isThere() && !document.quote(promise, words)) {
+            System.out.println(name + ": the document does not say" + said);
+        }
+    }
+
+    /** Tells what of the document no test quoted; it fails nothing, for the document may get other words. */
+    void tellUnquoted() {
+        for (String words : document.unquoted()) {
+            System.out.println(name + ": not quoted, " + words);
+        }
+    }
+
     void due(String call, long got, long want) {
         seen++;
         if (got != want) {
             wrong++;
-            System.out.println(name + ": " + call + " answered " + got + ", due is " + want);
+            System.out.println(name + ": " + call + " answered " + got + ", due is " + want + said);
         }
     }
 
@@ -52,5 +71,11 @@ final class Check {
         RoundRules x = new RoundRules();
         program(x, text);
         return x;
+    }
+
+    /** What the object answers to a day of these threes, told by way of sheet 0, in ints. */
+    static int day(RoundRules x, int what, int... threes) {
+        fill(x, 0, 2, threes);
+        return x.day(0, 2, 0, threes.length / 3, what);
     }
 }

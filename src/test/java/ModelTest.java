@@ -15,46 +15,16 @@ public final class ModelTest {
         check.end();
     }
 
-    private static String text() {
-        int d = 1 + chance.nextInt(4);
-        StringBuilder text = new StringBuilder("d").append(d);
-        for (int k = chance.nextInt(6); k > 0; k--) {
-            char form = "ctjn".charAt(chance.nextInt(4));
-            text.append(';').append("pbw".charAt(chance.nextInt(3))).append(1 + chance.nextInt(9)).append(form);
-            for (int part = form == 'c' || form == 't' ? 2 : 3; part > 0; part--) {
-                text.append(chance.nextInt(d));
-            }
-        }
-        for (int k = chance.nextInt(6); k > 0; k--) {
-            text.append(',').append(chance.nextInt(d)).append(chance.nextInt(4)).append(chance.nextInt(4));
-        }
-        return text.toString();
-    }
-
     private static void faultyTexts() {
-        StringBuilder text = new StringBuilder(text());
-        String signs = "dpbwctjn;,0123459x";
-        for (int k = chance.nextInt(3); k > 0 && text.length() > 0; k--) {
-            int at = chance.nextInt(text.length());
-            char sign = signs.charAt(chance.nextInt(signs.length()));
-            switch (chance.nextInt(4)) {
-                case 0: text.setCharAt(at, sign); break;
-                case 1: text.insert(at, sign); break;
-                case 2: text.deleteCharAt(at); break;
-                default: text.setLength(at);
-            }
-        }
-        if (text.length() > 60) {
-            text.setLength(60);
-        }
+        String text = Texts.spoiled(chance);
         RoundRules x = new RoundRules();
-        check.due(text.toString(), Check.program(x, text.toString()), new Model().program(text.toString()));
+        check.due(text, Check.program(x, text), new Model().program(text));
     }
 
     private static void runOfProgram(int run) {
         RoundRules x = new RoundRules();
         Model m = new Model();
-        String text = text();
+        String text = Texts.text(chance);
         check.due(text, Check.program(x, text), m.program(text));
         if (m.relations == 0) {
             return;
@@ -112,20 +82,8 @@ public final class ModelTest {
         }
     }
 
-    private static int[] threes() {
-        int[] threes = new int[3 * chance.nextInt(8)];
-        boolean wild = chance.nextInt(4) == 0;
-        for (int k = 0; k < threes.length; k += 3) {
-            boolean ofRule = chance.nextInt(3) == 0;
-            threes[k] = ofRule ? 10 + chance.nextInt(wild ? 6 : 3) : chance.nextInt(wild ? 5 : 3);
-            threes[k + 1] = wild ? chance.nextInt(6) - 1 : chance.nextInt(4);
-            threes[k + 2] = wild ? chance.nextInt(6) - 1 : chance.nextInt(4);
-        }
-        return threes;
-    }
-
     private static void compareDay(String text, RoundRules x, Model m) {
-        int[] threes = threes();
+        int[] threes = Texts.threes(chance);
         Check.fill(x, 0, 1, threes);
         int[] whats = {0, 1, 2, 3, 4, 10, 11, 12, 13};
         for (int what : whats) {

@@ -31,46 +31,13 @@ public final class WildTest {
                 Check.program(x, TEXTS[chance.nextInt(TEXTS.length)]);
             }
             try {
-                wildCall(x, chance.nextInt(28), number(), number(), number(), number(), number());
+                Calls.on(x, chance.nextInt(Calls.COUNT), number(), number(), number(), number(), number());
                 calls++;
             } catch (RuntimeException thrown) {
                 System.out.println("a call threw " + thrown);
             }
         }
         check.due("calls that did not throw", calls, 512);
-    }
-
-    private static long wildCall(RoundRules x, int which, int a, int b, int c, int d, int e) {
-        switch (which) {
-            case 0: return x.program(a, b, c, d);
-            case 1: return x.ofRule(a, b);
-            case 2: return x.ofRelation(a, b);
-            case 3: return x.form(a, b);
-            case 4: return x.tell(a, b, c);
-            case 5: return x.ofFact(a, b, c, d);
-            case 6: return x.day(a, b, c, d, e);
-            case 7: return x.rounds();
-            case 8: return x.born(a);
-            case 9: return x.ranked(a, b);
-            case 10: return x.settled(a);
-            case 11: return x.demands(a, b);
-            case 12: return x.reading(a, b, c, d);
-            case 13: return x.back(a);
-            case 14: return x.kinds(a);
-            case 15: return x.forms(a);
-            case 16: return x.odds(a, b);
-            case 17: return x.sheet(a, b, c);
-            case 18: return x.lose(a);
-            case 19: return x.put(a, b, c);
-            case 20: return x.cell(a, b, c);
-            case 21: return x.copy(a, b, c, d, e);
-            case 22: return x.speak(a);
-            case 23: return x.quote(a);
-            case 24: return x.as(a, b);
-            case 25: return x.trace();
-            case 26: return x.fault();
-            default: return x.many(a);
-        }
     }
 
     private static void roomOfCalls() {
@@ -82,8 +49,8 @@ public final class WildTest {
         x.sheet(0, 2, 60);
         threads.getThreadAllocatedBytes(thread);
         long before = threads.getThreadAllocatedBytes(thread);
-        for (int k = 0; k < 28 * 2000; k++) {
-            wildCall(x, k % 28, k / 28 % 3, 1, 2, 3, 0);
+        for (int k = 0; k < Calls.COUNT * 2000; k++) {
+            Calls.on(x, k % Calls.COUNT, k / Calls.COUNT % 3, 1, 2, 3, 0);
         }
         long made = threads.getThreadAllocatedBytes(thread) - before;
         check.due("56000 calls made " + made + " bytes", made < 56000);
