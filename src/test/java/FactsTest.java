@@ -70,11 +70,6 @@ public final class FactsTest {
         fact(z, 2, 4, 1, 0, 1, 2, 0, -9);
     }
 
-    private static int dayOf(RoundRules x, int what, int... threes) {
-        Check.fill(x, 0, 2, threes);
-        return x.day(0, 2, 0, threes.length / 3, what);
-    }
-
     private static void whatDaysTell() {
         RoundRules x = Check.of(Check.PATHS);
         int[] whats = {0, 1, 2, 3, 4, 10, 11, 12, 13};
@@ -83,12 +78,12 @@ public final class FactsTest {
         int[] turned = {6, -9, 1, 1, 3, 3, 3, -9, -9};
         int[] empty = {0, -9, 0, 0, 0, 0, 0, -9, -9};
         for (int k = 0; k < whats.length; k++) {
-            check.due("a day of nothing", dayOf(x, whats[k]), none[k]);
-            check.due("a day that takes 0 (0, 1) back", dayOf(x, whats[k], 0, 0, 1), back[k]);
-            check.due("a day that tells it again", dayOf(x, whats[k], 0, 0, 1, 0, 0, 1), none[k]);
-            check.due("a day with other forms", dayOf(x, whats[k], 10, 1, 77, 11, 3, -5, 10, 0, 0), turned[k]);
+            check.due("a day of nothing", Check.day(x, whats[k]), none[k]);
+            check.due("a day that takes 0 (0, 1) back", Check.day(x, whats[k], 0, 0, 1), back[k]);
+            check.due("a day that tells it again", Check.day(x, whats[k], 0, 0, 1, 0, 0, 1), none[k]);
+            check.due("a day with other forms", Check.day(x, whats[k], 10, 1, 77, 11, 3, -5, 10, 0, 0), turned[k]);
             check.due("a day that takes all back",
-                    dayOf(x, whats[k], 0, 0, 1, 0, 1, 2, 0, 2, 3), empty[k]);
+                    Check.day(x, whats[k], 0, 0, 1, 0, 1, 2, 0, 2, 3), empty[k]);
         }
         check.due("nothing is changed", x.many(2), 9);
         check.due("no form is changed", x.ofRule(1, 3), 2);
@@ -98,15 +93,15 @@ public final class FactsTest {
             many[3 * k + 1] = k % 4;
             many[3 * k + 2] = k / 4 % 4;
         }
-        check.due("a day of twenty", dayOf(x, 4, many), 15);
+        check.due("a day of twenty", Check.day(x, 4, many), 15);
         Check.fill(x, 0, 0, 9, 9, 0, 3, 0, 9);
         check.due("a day from the middle of bytes", x.day(0, 0, 2, 1, 4), 4);
     }
 
     private static void wrong(RoundRules x, int first, int... threes) {
-        check.due("its first wrong", dayOf(x, 1, threes), first);
-        check.due("-100 less it", dayOf(x, 0, threes), -100 - first);
-        check.due("-100 less it, of no relation too", dayOf(x, 13, threes), -100 - first);
+        check.due("its first wrong", Check.day(x, 1, threes), first);
+        check.due("-100 less it", Check.day(x, 0, threes), -100 - first);
+        check.due("-100 less it, of no relation too", Check.day(x, 13, threes), -100 - first);
         check.due("no fault of the machine", x.fault(), 0);
     }
 
@@ -130,7 +125,7 @@ public final class FactsTest {
         RoundRules y = Check.of("d3;p1j201;p1j102");
         wrong(y, 0, 10, 3, 0, 11, 3, 0);
         wrong(y, 1, 10, 2, 0, 11, 3, 0);
-        check.due("but of the one they have", dayOf(y, 1, 10, 2, 0, 11, 2, 0), -9);
+        check.due("but of the one they have", Check.day(y, 1, 10, 2, 0, 11, 2, 0), -9);
     }
 
     private static void refusedDays() {
@@ -160,7 +155,7 @@ public final class FactsTest {
         Check.program(x, "d1");
         int[] firsts = {4, 9, 15, -1, 7};
         for (int first : firsts) {
-            check.due("day: OUTSIDE, no such act", dayOf(x, 1, 0, 9, 9, first, 0, 0), -2);
+            check.due("day: OUTSIDE, no such act", Check.day(x, 1, 0, 9, 9, first, 0, 0), -2);
         }
         check.due("day: none at the end", x.day(0, 2, 6, 0, 0), 0);
     }
